@@ -327,13 +327,10 @@ public final class TransactionCells {
         void clearWork(int t) {
             int reads = At.READS + At.TX * t;
             int seen = At.SEEN + At.TX * t;
+            int log = At.LOG + At.TX * t;
             Arrays.fill(now, reads, reads + CELLS, NONE);
             Arrays.fill(now, seen, seen + CELLS, NONE);
             Arrays.fill(now, seen + CELLS, seen + 2 * CELLS, 0);
-            clearLog(At.LOG + At.TX * t);
-        }
-
-        void clearLog(int log) {
             Arrays.fill(now, log, log + CELLS, NONE);
             Arrays.fill(now, log + CELLS, log + 2 * CELLS, 0);
         }
@@ -480,7 +477,9 @@ public final class TransactionCells {
             counted++;
             if (counted > MOST) return;
             boolean isPicture = now[At.WAY] == Dealings.PICTURE && now[At.KIND + t] == Dealings.READING;
-            int from = makeRoom(isPicture ? placeOf(now[At.START + At.TX * t]) : counted - 1);
+            int i = isPicture ? placeOf(now[At.START + At.TX * t]) : counted - 1;
+            int from = i * NOTE;
+            System.arraycopy(notes, from, notes, from + NOTE, (counted - 1 - i) * NOTE);
             notes[from + THREAD] = t;
             notes[from + KIND] = now[At.KIND + t];
             System.arraycopy(now, At.SEEN + At.TX * t, notes, from + READ, 2 * CELLS);
@@ -493,7 +492,7 @@ public final class TransactionCells {
             if (isClosed) return;
             counted++;
             if (counted > MOST) return;
-            int from = makeRoom(counted - 1);
+            int from = (counted - 1) * NOTE;
             notes[from + THREAD] = t;
             notes[from + KIND] = Dealings.DOING;
             Arrays.fill(notes, from + READ, from + READ + CELLS, NONE);
@@ -511,12 +510,6 @@ public final class TransactionCells {
                 if (notes[i * NOTE + MADE] > start) return i;
             }
             return counted - 1;
-        }
-
-        private int makeRoom(int i) {
-            int from = i * NOTE;
-            System.arraycopy(notes, from, notes, from + NOTE, (counted - 1 - i) * NOTE);
-            return from;
         }
 
         /** What check() answers. */
@@ -576,7 +569,7 @@ public final class TransactionCells {
             return now[At.WAY] == way;
         }
 
-        private boolean isOfAnother(int thread, int t) {
+        private static boolean isOfAnother(int thread, int t) {
             return thread != NONE && thread != t;
         }
 
@@ -601,14 +594,17 @@ public final class TransactionCells {
             if (now[At.KIND + t] == NONE) return lookOutside(t, x);
             int log = At.LOG + At.TX * t + x;
             if (now[log] != NONE) return find(now[log], now[log + CELLS]);
-            if (isWay(COARSE)) return lookNow(t, x, true);
+            if (isWay(COARSE)) {
+                comeToReads(t, x);
+                return see(t, x, 0);
+            }
             if (isOfAnother(now[At.HOLDER + x], t)) return Steps.WAITS;
             int rival = rival(t, x);
             if (rival != NONE && !isElder(t, rival)) return Steps.WAITS;
             if (rival != NONE) beginAnew(rival);
             if (now[At.KIND + t] == SURE) {
                 now[At.HOLDER + x] = t;
-                return lookNow(t, x, false);
+                return see(t, x, 0);
             }
             if (now[At.KIND + t] == READING && isWay(PICTURE)) return lookAtPicture(t, x);
             return lookByClock(t, x);
@@ -619,10 +615,9 @@ public final class TransactionCells {
             return find(now[At.SORT + x], now[At.WHAT + x]);
         }
 
-        private int lookNow(int t, int x, boolean comesToReads) {
+        private void comeToReads(int t, int x) {
             int reads = At.READS + At.TX * t + x;
-            if (comesToReads && now[reads] == NONE) now[reads] = now[At.VERSION + x];
-            return see(t, x, 0);
+            if (now[reads] == NONE) now[reads] = now[At.VERSION + x];
         }
 
         private int lookAtPicture(int t, int x) {
@@ -643,7 +638,8 @@ public final class TransactionCells {
                 if (isStale(t)) return Steps.ANEW;
                 now[start] = now[At.CLOCK];
             }
-            return lookNow(t, x, true);
+            comeToReads(t, x);
+            return see(t, x, 0);
         }
 
         /** Finds a VALUE of a CELL, so far back, and keeps it for THE ORDER, if it is the first READING. */
@@ -787,7 +783,9 @@ public final class TransactionCells {
         /** What RETRY does where no EITHER stands: to sleep, if nothing of what was read is other by now. */
         int sleep(int t) {
             if (isStale(t)) return Steps.ANEW;
-            house.clearLog(At.LOG + At.TX * t);
+            int log = At.LOG + At.TX * t;
+            Arrays.fill(now, log, log + CELLS, NONE);
+            Arrays.fill(now, log + CELLS, log + 2 * CELLS, 0);
             release(t, At.OWNER);
             unlock(t);
             now[At.STANDS + t] = House.ASLEEP;
