@@ -70,6 +70,8 @@ public final class ActsTest {
         due("12: LESS wraps", register(0, a(SET, 0, min), a(SET, 1, 1), a(LESS, 0, 1)), max);
         due("12: PART is cut", register(0, a(SET, 0, -7), a(SET, 1, 2), a(PART, 0, 1)), -3);
         due("12: PART wraps", register(0, a(SET, 0, min), a(SET, 1, -1), a(PART, 0, 1)), min);
+        due("12: PART to r[2]", register(2, a(SET, 2, 9), a(SET, 1, 4), a(PART, 2, 1)), 2);
+        due("12: BELOW to r[3]", register(3, a(SET, 3, 1), a(SET, 2, 2), a(BELOW, 3, 2)), 1);
         due("12: ZERO", gone(a(SET, 0, 5), a(PART, 0, 1)).thread(0, 2), 4);
         due("12: BELOW", register(0, a(SET, 1, 3), a(BELOW, 0, 1)), 1);
         due("12: not BELOW, but like", register(0, a(SET, 0, 3), a(SET, 1, 3), a(BELOW, 0, 1)), 0);

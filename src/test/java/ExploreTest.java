@@ -2,7 +2,7 @@
 public final class ExploreTest {
     private static final int SET = Due.SET, READ = Due.READ, WRITE = Due.WRITE, JUMP = Due.JUMP, FAIL = Due.FAIL;
     private static final int BEGIN = Due.BEGIN, END = Due.END, RETRY = Due.RETRY, IF_NONE = Due.IF_NONE;
-    private static final int TRY = Due.TRY, DONE = Due.DONE, ADD = Due.ADD;
+    private static final int VOID = Due.VOID, TRY = Due.TRY, DONE = Due.DONE, ADD = Due.ADD;
     private static final int DOING = Due.DOING, WAITING = Due.WAITING, SURE = Due.SURE;
 
     private static void due(String what, long got, long want) {
@@ -19,9 +19,12 @@ public final class ExploreTest {
         bounds();
         circles();
         likeHouses();
+        triesKeepNothing();
+        eager();
         elder();
         asItIs();
         ends();
+        endsUnlike();
         endsStay();
         standings();
         sureOnesAndAll();
@@ -122,6 +125,27 @@ public final class ExploreTest {
         due("14: TRANSACTIONS that are gone", w.explore(400), 4);
     }
 
+    /** THREAD 0 reads before or after THREAD 1 writes; with the REGISTER cleared that is gone, TRY or not. */
+    private static void triesKeepNothing() {
+        TransactionCells x = Due.made(Due.CLOCK, Due.code(a(READ, 1, 0), a(TRY, 9), a(SET, 1, 0)), Due.code(a(WRITE, 0, 0)));
+        x.cell(0, 1, 1);
+        x.start(0);
+        x.start(1);
+        due("14: a TRY brings nothing back", x.explore(400), 6 + 8 + 8);
+    }
+
+    /** The ELDER one goes on from every house, so that each circle of the two has an end. */
+    private static void eager() {
+        TransactionCells x = Due.made(Due.EAGER, Due.code(a(BEGIN, DOING), a(READ, 0, 0), a(SET, 1, 1), a(ADD, 0, 1), a(WRITE, 0, 0), a(END)));
+        x.cell(0, 1, 5);
+        x.start(0);
+        x.start(1);
+        due("14: EAGER", x.explore(400), 111);
+        due("15: one END", x.end(-1, 0), 1);
+        due("15: both", x.end(0, 8), 7);
+        due("15: ENDED", x.end(0, 16) + x.end(0, 17), 4);
+    }
+
     private static void elder() {
         TransactionCells x = Due.made(Due.CLOCK, Due.code(a(BEGIN, DOING), a(END)));
         x.start(0);
@@ -179,6 +203,24 @@ public final class ExploreTest {
             due("15: ENDED", x.end(i, 17), 2);
             due("15: not STARTED", x.end(i, 18), 0);
         }
+    }
+
+    private static void endsUnlike() {
+        TransactionCells x = Due.made(Due.CLOCK, Due.code(a(VOID, 0)), Due.code(a(WRITE, 0, 0)));
+        x.start(0);
+        x.start(1);
+        x.explore(400);
+        due("15: NOTHING and NUMBER 0 are two", x.end(-1, 0), 2);
+        due("15: sorts", x.end(0, 0), 1);
+        due("15: sorts", x.end(1, 0), 0);
+        // By who is FAILED alone: THREAD 0 FAILS if it reads first.
+        TransactionCells y = Due.made(Due.CLOCK, Due.code(a(READ, 0, 0)), Due.code(a(WRITE, 0, 0)));
+        y.start(0);
+        y.start(1);
+        y.explore(400);
+        due("15: how THREADS stand", y.end(-1, 0), 2);
+        due("15: FAILED", y.end(0, 16), 3);
+        due("15: ENDED", y.end(1, 16), 2);
     }
 
     private static void endsStay() {

@@ -178,6 +178,18 @@ public final class ToldTest {
         due("20: the 60th", x.forge(59, 10, 0), 0);
         x.reset();
         due("21: after reset()", x.check(), NONE);
+        x.cell(1, 1, 1);
+        x.start(0);
+        x.run(0, 3);
+        x.reset();
+        x.wipe();
+        x.act(0, WRITE, 1, 1, 0);
+        x.start(0);
+        x.run(0, 1);
+        for (int what = 2; what < 34; what++) {
+            int want = what == 18 + 1 ? 1 : what < 10 || what >= 18 && what < 26 ? NONE : 0;
+            due("19: nothing is left of notes before, " + what, x.order(0, what), want);
+        }
     }
 
     /** The 61st is not noted, wherever it would stand; the 60th is, and all behind it go on by one. */
@@ -284,7 +296,9 @@ public final class ToldTest {
         due("21: forged", x.check(), 0);
         x.reset();
         x.wipe();
-        x.tear(2);
+        for (int i = 0; i < 9; i++) x.act(0, FAIL, 0, 0, 0);
+        x.row(2, 1, 3);
+        x.item(2, 0, 9);
         x.way(Due.COARSE);
         x.code(0, 4);
         x.cell(0, 0, 0);
@@ -298,6 +312,8 @@ public final class ToldTest {
         x.start(2);
         due("23: the CODES", x.step(2), 1);
         due("23: the ROWS", x.thread(2, 11), 1234);
+        due("23: how many ITEMS", x.item(2, 1, 0), OUTSIDE);
+        due("23: the LANE", x.item(2, 0, 1L << 40) + x.item(2, 0, 1234), 0);
         x.keep();
         x.reset();
         due("22: in place of the one before", x.back() + x.thread(2, 11), 1234);

@@ -326,15 +326,15 @@ public final class TransactionsTest {
     }
 
     private static void held() {
-        TransactionCells x = two(CLOCK, increment(SURE, 0), Due.code(a(BEGIN, DOING), a(READ, 0, 0), a(WRITE, 0, 0), a(END)));
+        TransactionCells x = two(CLOCK, increment(SURE, 1), Due.code(a(BEGIN, DOING), a(READ, 0, 1), a(WRITE, 1, 0), a(END)));
         Due.steps("12: SURE", x, 0, 1);
         due("18: SURE is under way", x.count(6), 0);
         Due.steps("12: it reads", x, 0, 1);
-        due("17: HELD from now on", x.told(0, 4), 0);
-        due("17: not OWNED", x.told(0, 3), NONE);
+        due("17: HELD from now on", x.told(1, 4), 0);
+        due("17: not OWNED", x.told(1, 3), NONE);
         Due.steps("12: another one WAITS to read", x, 1, 1, 0);
         Due.steps("12: END", x, 0, 1, 1, 1, 1);
-        due("17: HELD no more", x.told(0, 4), NONE);
+        due("17: HELD no more", x.told(1, 4), NONE);
         due("18: no SURE one", x.count(6), NONE);
         Due.steps("12: on", x, 1, 1, 1, 1);
         TransactionCells y = two(CLOCK, Due.code(a(BEGIN, SURE), a(WRITE, 2, 0), a(END)), Due.code(a(BEGIN, DOING), a(VOID, 2), a(END)));
@@ -351,13 +351,13 @@ public final class TransactionsTest {
     }
 
     private static void heldAtEnd() {
-        TransactionCells x = two(CLOCK, increment(SURE, 0), Due.code(a(BEGIN, DOING), a(READ, 0, 0), a(END)));
+        TransactionCells x = two(CLOCK, increment(SURE, 3), Due.code(a(BEGIN, DOING), a(READ, 0, 3), a(END)));
         Due.steps("12", x, 1, 1, 1);
         Due.steps("12: SURE", x, 0, 1, 1);
         Due.steps("12: a CELL of READS is HELD", x, 1, 0);
         Due.steps("12", x, 0, 1, 1, 1, 1);
         Due.steps("12: another VERSION", x, 1, 2);
-        TransactionCells y = two(CLOCK, increment(SURE, 0), Due.code(a(BEGIN, DOING), a(WRITE, 0, 0), a(END)));
+        TransactionCells y = two(CLOCK, increment(SURE, 2), Due.code(a(BEGIN, DOING), a(WRITE, 2, 0), a(END)));
         Due.steps("12", y, 1, 1, 1);
         Due.steps("12: SURE", y, 0, 1, 1);
         Due.steps("12: a CELL of the LOG is HELD", y, 1, 0);
@@ -402,6 +402,7 @@ public final class TransactionsTest {
         Due.steps("12", x, 0, 1, 1, 5);
         due("17: nothing is OWNED", x.told(3, 3), NONE);
         due("17: LOG is empty", x.told(3, 8), NONE);
+        due("17: LOG is empty", x.told(3, 11), 0);
         due("12: REGISTERS stay", x.thread(0, 9), 1);
         Due.steps("12: WAITS", x, 0, 0);
         Due.steps("12: another CELL", x, 1, 1, 1);
@@ -505,7 +506,7 @@ public final class TransactionsTest {
     }
 
     private static void outsideWaits() {
-        TransactionCells x = two(CLOCK, increment(SURE, 0), Due.code(a(READ, 0, 0), a(WRITE, 1, 0), a(READ, 0, 1), a(WRITE, 0, 0)));
+        TransactionCells x = two(CLOCK, increment(SURE, 3), Due.code(a(READ, 0, 3), a(WRITE, 1, 0), a(READ, 0, 1), a(WRITE, 3, 0)));
         Due.steps("12", x, 0, 1, 1);
         Due.steps("12: READING of a HELD one WAITS", x, 1, 0);
         Due.steps("12", x, 0, 1, 1, 1, 1);
