@@ -108,6 +108,7 @@ public final class TransactionCells {
         int done = 0;
         int idle = 0;
         int turn = t;
+        // idle is 0 again behind a STEP only, and of STEPS there are n at most.
         for (int used = 0; used < n && idle < THREADS; turn = (turn + 1) % THREADS) {
             idle++;
             if (!house.canStep(turn)) continue;
@@ -1060,6 +1061,7 @@ public final class TransactionCells {
             Arrays.fill(table, 0);
             many = 0;
             boolean metAll = meet(n);
+            // many grows on the way, but not above n.
             for (int i = 0; i < many && metAll; i++) {
                 isStill[i] = true;
                 for (int t = 0; t < THREADS && metAll; t++) {
