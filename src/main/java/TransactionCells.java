@@ -236,7 +236,7 @@ public final class TransactionCells {
 
     /**
      * Where the numbers of a house stand. They stand in ONE row of ints, because explore() copies and
-     * compares whole houses. First what makes two houses like or unlike, then the rest from BEGUN on.
+     * compares whole houses. First what makes two houses like or unlike, then the rest from ANEW_OF on.
      */
     private static final class At {
         static final int CLOCK = 0, LOCK = 1, SURE = 2;
@@ -256,10 +256,11 @@ public final class TransactionCells {
         static final int SCOPE_SORT = SCOPES, SCOPE_PLACE = SCOPES + 1, SCOPE_REGISTER = SCOPES + 2;
         static final int SCOPE_LOG = SCOPES + 6, SCOPE = 22, MOST_SCOPES = 4;
         // What two houses that are like may have unlike.
-        static final int BEGUN = SCOPES + 12 * SCOPE, ANEWS = BEGUN + 1;
-        static final int ANEW_OF = BEGUN + 2, DONE_OF = BEGUN + 5, WAITED_OF = BEGUN + 8;
-        // What reset() leaves; FIRST is the CELLS that check() begins with: 8 sorts, then 8 VALUES.
-        static final int CODE_OF = BEGUN + 11, WAY = BEGUN + 14, FIRST = BEGUN + 15, ALL = FIRST + 16;
+        static final int ANEW_OF = SCOPES + 12 * SCOPE, DONE_OF = ANEW_OF + 3, WAITED_OF = ANEW_OF + 6;
+        // What reset() leaves: BEGUN and ANEWS count since the object was made.
+        static final int BEGUN = ANEW_OF + 9, ANEWS = BEGUN + 1, CODE_OF = BEGUN + 2, WAY = BEGUN + 5;
+        // The CELLS that check() begins with: 8 sorts, then 8 VALUES.
+        static final int FIRST = BEGUN + 6, ALL = FIRST + 16;
     }
 
     /** All that keep() keeps. */
@@ -287,7 +288,7 @@ public final class TransactionCells {
             notes.copyFrom(other.notes);
         }
 
-        /** What reset() does: all but the VALUES, and what was told ahead, is as at first. */
+        /** What reset() does: all but the VALUES, what was told ahead, and what is counted ever, is as at first. */
         void restart() {
             Arrays.fill(now, 0, At.OWNER, 0);
             now[At.LOCK] = NONE;
@@ -297,7 +298,7 @@ public final class TransactionCells {
             Arrays.fill(now, At.VERSION, At.VERSION + CELLS, 0);
             // An older VALUE that is not there has VERSION NONE.
             Arrays.fill(now, At.OLDER, At.TRANSACTIONS, NONE);
-            Arrays.fill(now, At.TRANSACTIONS, At.CODE_OF, 0);
+            Arrays.fill(now, At.TRANSACTIONS, At.BEGUN, 0);
             for (int t = 0; t < THREADS; t++) clearWork(t);
             notes.counted = 0;
             markFirst();

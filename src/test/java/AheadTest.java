@@ -293,7 +293,7 @@ public final class AheadTest {
                 due("11: thread(" + t + ", " + what + ")", x.thread(t, what), what == 3 ? NONE : 0);
             }
         }
-        int[] counts = {0, 0, 0, 0, 0, NONE, NONE, Due.EAGER};
+        int[] counts = {0, 0, 0, 3, 0, NONE, NONE, Due.EAGER};
         for (int what = 0; what < 8; what++) due("11: count(" + what + ")", x.count(what), counts[what]);
         due("11: THE ORDER", x.order(0, 0), UNKNOWN);
         due("11: check() begins with the VALUES that stay", x.check(), NONE);
@@ -301,6 +301,35 @@ public final class AheadTest {
         due("11: none went", x.reset(), 0);
         lockIsFree();
         olderValuesAreGone();
+        countsStay();
+    }
+
+    /** How many have begun EVER, and how many of these BEGAN ANEW, is not of what reset() makes as at first. */
+    private static void countsStay() {
+        TransactionCells x = Due.made(Due.CLOCK,
+            Due.code(Due.a(Due.BEGIN, Due.DOING), Due.a(Due.READ, 0, 0), Due.a(Due.END)),
+            Due.code(Due.a(Due.WRITE, 0, 0)));
+        x.cell(0, 1, 5);
+        x.start(0);
+        x.start(1);
+        Due.steps("11", x, 0, 1, 1);
+        Due.steps("11", x, 1, 1);
+        Due.steps("11", x, 0, 2);
+        x.reset();
+        due("11: begun ever stay", x.count(3), 2);
+        due("11: that BEGAN ANEW stay", x.count(4), 1);
+        due("11: of the THREAD none did", x.thread(0, 4), 0);
+        x.start(0);
+        Due.steps("11", x, 0, 1);
+        due("11: begun ever go on", x.count(3), 3);
+        x.keep();
+        x.reset();
+        x.start(1);
+        Due.steps("11", x, 1, 1);
+        due("11: since the object was made", x.count(3), 4);
+        x.back();
+        due("23: as it was kept", x.count(3), 3);
+        due("1: a new object", new TransactionCells().count(3), 0);
     }
 
     private static void lockIsFree() {

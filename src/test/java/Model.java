@@ -530,6 +530,8 @@ final class Model {
         fresh.codes = h.codes;
         fresh.rows = h.rows;
         fresh.way = h.way;
+        fresh.begun = h.begun;
+        fresh.anews = h.anews;
         for (int t = 0; t < 3; t++) fresh.workers[t].code = h.workers[t].code;
         for (int x = 0; x < 8; x++) fresh.cells.get(x).set(0, new Dated(h.present(x), 0));
         fresh.markFirst();
