@@ -38,6 +38,22 @@ final class Due {
         return x;
     }
 
+    /** CELLS 0 to 7 are 0, 10, 20 ..; all THREADS are GOING, each by its CODE or by the last one. */
+    static TransactionCells going(int way, int[][]... codes) {
+        TransactionCells x = made(way, codes);
+        for (int c = 0; c < 8; c++) x.cell(c, 1, 10 * c);
+        for (int t = 0; t < 3; t++) x.start(t);
+        return x;
+    }
+
+    /** A CODE of these ACTS behind a BEGIN. */
+    static int[][] behind(int kind, int[]... acts) {
+        int[][] all = new int[acts.length + 1][];
+        all[0] = a(BEGIN, kind);
+        System.arraycopy(acts, 0, all, 1, acts.length);
+        return all;
+    }
+
     static int[] a(int... act) {
         return act;
     }
