@@ -349,11 +349,12 @@ public final class ToldTest {
         due("24: of a new object", new TransactionCells().digest(), h);
         TransactionCells x = noted();
         due("24: of another one", x.digest(), digestOf(x));
-        x.reset();
-        x.start(1);
-        for (int i = 0; i < 5; i++) {
-            x.step(1);
-            due("24: on the way", x.digest(), digestOf(x));
+        for (int steps = 1; steps < 6; steps++) {
+            TransactionCells y = noted();
+            y.reset();
+            y.start(1);
+            y.run(1, steps);
+            due("24: on the way", y.digest(), digestOf(y));
         }
     }
 }

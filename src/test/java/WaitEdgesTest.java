@@ -249,8 +249,7 @@ public final class WaitEdgesTest {
     /** r[3] is 6, a TRY, BEGIN at PLACE 2, then CELLS 4 and 5 are read, 6 is written, in SCOPES; then these ACTS. */
     private static int[][] code(int kind, int[]... last) {
         int[][] first = {a(SET, 3, 6), a(TRY, 30), a(BEGIN, kind), a(kind == READING ? TRY : NEST, 31), a(READ, 1, 4), a(SET, 3, 7),
-            a(READ, 2, 5),
-            kind == READING ? a(SET, 0, 1) : a(WRITE, 6, 3), a(kind == READING ? TRY : NEST, 32)};
+            a(READ, 2, 5), kind == READING ? a(SET, 0, 1) : a(WRITE, 6, 3), a(kind == READING ? TRY : NEST, 32)};
         int[][] all = new int[first.length + last.length][];
         System.arraycopy(first, 0, all, 0, first.length);
         System.arraycopy(last, 0, all, first.length, last.length);
@@ -279,8 +278,7 @@ public final class WaitEdgesTest {
         for (int way = 0; way < 3; way++) {
             for (int cell : new int[] {4, 5, 6, 7}) {
                 TransactionCells x = going(way, Due.code(a(SET, 3, 6), a(TRY, 30), a(BEGIN, DOING), a(SET, 3, 7), a(READ, 1, 4),
-                    a(READ, 2, 5),
-                    a(WRITE, 2, 3), a(END)), Due.code(a(WRITE, cell, 0)));
+                    a(READ, 2, 5), a(WRITE, 2, 3), a(END)), Due.code(a(WRITE, cell, 0)));
                 done(x, th(0), 7);
                 done(x, th(1), 1);
                 boolean isRead = cell == 4 || cell == 5;
@@ -295,8 +293,7 @@ public final class WaitEdgesTest {
         for (int way = 0; way < 3; way++) {
             for (int cell : new int[] {4, 5, 7}) {
                 TransactionCells x = going(way, Due.code(a(SET, 3, 6), a(TRY, 30), a(BEGIN, WAITING), a(EITHER, 31), a(READ, 1, 4),
-                    a(SET, 3, 7),
-                    a(READ, 2, 5), a(WRITE, 6, 3), a(FAIL, 0)), Due.code(a(WRITE, cell, 0)));
+                    a(SET, 3, 7), a(READ, 2, 5), a(WRITE, 6, 3), a(FAIL, 0)), Due.code(a(WRITE, cell, 0)));
                 done(x, th(0), 8);
                 done(x, th(1), 1);
                 boolean isRead = cell != 7;
