@@ -8,7 +8,7 @@ public final class TransactionCells {
     public static final int NONE = -1, UNKNOWN = -101, OUTSIDE = -102, STATE = -103, FULL = -104, SIZE = -15;
 
     private static final int CELLS = 8, THREADS = 3, REGISTERS = 4;
-    private static final int MOST_STEPS = 200, HOUSES_IN_ALL = 4000;
+    private static final int MOST_STEPS = 200, MOST_TURNS = THREADS * (MOST_STEPS + 1), HOUSES_IN_ALL = 4000;
 
     private final House house = new House();
     private final House kept = new House();
@@ -107,9 +107,10 @@ public final class TransactionCells {
         if (n < 0 || n > MOST_STEPS) return OUTSIDE;
         int done = 0;
         int idle = 0;
-        int turn = t;
-        // idle is 0 again behind a STEP only, and of STEPS there are n at most.
-        for (int used = 0; used < n && idle < THREADS; turn = (turn + 1) % THREADS) {
+        int used = 0;
+        // Of THREADS turns in a row one at least is a STEP that is done, or it is over.
+        for (int turns = 0; turns < MOST_TURNS && used < n && idle < THREADS; turns++) {
+            int turn = (t + turns) % THREADS;
             idle++;
             if (!house.canStep(turn)) continue;
             used++;
@@ -1063,7 +1064,7 @@ public final class TransactionCells {
             many = 0;
             boolean metAll = meet(n);
             // many grows on the way, but not above n.
-            for (int i = 0; i < many && metAll; i++) {
+            for (int i = 0; i < n && i < many && metAll; i++) {
                 isStill[i] = true;
                 for (int t = 0; t < THREADS && metAll; t++) {
                     System.arraycopy(met, i * At.ALL, now, 0, At.ALL);

@@ -29,6 +29,7 @@ public final class CallEdgesTest {
         tears();
         startAndReset();
         runAtMost();
+        runAlone();
         runTillThree();
         runInTurn();
         exploreAtMost();
@@ -172,6 +173,27 @@ public final class CallEdgesTest {
         due("13: the third does not", y.run(2, 3), 1);
     }
 
+    /** One THREAD that goes on for ever, the others passed over or WAITING: of these no turn is one too many. */
+    private static void runAlone() {
+        for (int goes = 0; goes < 3; goes++) {
+            for (int first = 0; first < 3; first++) {
+                TransactionCells x = Due.made(CLOCK, Due.code(a(JUMP, 0)));
+                x.start(goes);
+                due("13: 200 STEPS of THREAD " + goes, x.run(first, 200), 200);
+                due("16: STEPS", x.thread(goes, 5), 200);
+                // The others are ASLEEP: of three STEPS in turn, as of two, one goes.
+                TransactionCells y = Due.made(CLOCK, Due.code(a(JUMP, 0)), Due.code(a(BEGIN, WAITING), a(RETRY)));
+                for (int t = 0; t < 3; t++) {
+                    y.code(t, t == goes ? 0 : 1);
+                    y.start(t);
+                    if (t != goes) Due.steps("13", y, t, 1, 5);
+                }
+                int ahead = (goes + 3 - first) % 3;
+                for (int n : new int[] {0, 1, 2, 3, 4, 199, 200}) due("13: those that WAIT, too", y.run(first, n), (n + 2 - ahead) / 3);
+            }
+        }
+    }
+
     /** Three in a row that WAIT or are passed over: each was looked at once behind the last one that was done. */
     private static void runTillThree() {
         for (int asleep = 0; asleep < 8; asleep++) {
@@ -199,6 +221,7 @@ public final class CallEdgesTest {
                 due("13: nothing goes", x.run(first, 200), 0);
             }
         }
+        waitsBehindTheLast();
         // A STEP that WAITS twice, till the third lets it go on.
         TransactionCells y = Due.made(COARSE, Due.code(a(BEGIN, DOING), a(END)), Due.code(a(BEGIN, DOING), a(SET, 0, 1), a(END)),
             Due.code(a(BEGIN, DOING), a(END)));
@@ -206,6 +229,25 @@ public final class CallEdgesTest {
         y.step(1);
         due("13: all of them", y.run(2, 200), 2 + 1 + 3 + 3);
         for (int t = 0; t < 3; t++) due("16: ENDED", y.thread(t, 0), 2);
+    }
+
+    /** Behind the last STEP that is done there are three turns, no more: two that WAIT, one that is passed over. */
+    private static void waitsBehindTheLast() {
+        for (int goes = 0; goes < 3; goes++) {
+            for (int first = 0; first < 3; first++) {
+                TransactionCells x = Due.made(CLOCK, Due.code(a(SET, 0, 1)), Due.code(a(BEGIN, WAITING), a(RETRY)));
+                for (int t = 0; t < 3; t++) {
+                    x.code(t, t == goes ? 0 : 1);
+                    x.start(t);
+                    if (t != goes) Due.steps("13", x, t, 1, 5);
+                }
+                due("13: two STEPS", x.run(first, 200), 2);
+                int turns = (goes + 3 - first) % 3 + 3 + 1 + 3;
+                int[] waited = new int[3];
+                for (int i = 0; i < turns; i++) waited[(first + i) % 3]++;
+                for (int t = 0; t < 3; t++) due("16: WAITED, from " + first, x.thread(t, 6), t == goes ? 0 : waited[t]);
+            }
+        }
     }
 
     private static void runInTurn() {

@@ -20,6 +20,7 @@ public final class ExploreTest {
         circles();
         likeHouses();
         triesKeepNothing();
+        numbersApart();
         eager();
         elder();
         asItIs();
@@ -132,6 +133,27 @@ public final class ExploreTest {
         x.start(0);
         x.start(1);
         due("14: a TRY brings nothing back", x.explore(400), 6 + 8 + 8);
+    }
+
+    /**
+     * Houses that differ in two REGISTERS of a THREAD alone, from (one, other) to (0, v): none of them is taken for
+     * another one, whatever is reckoned of its numbers (31 times the one and the other: the same sum).
+     */
+    private static void numbersApart() {
+        for (int r = 0; r < 3; r++) {
+            for (int[] numbers : new int[][] {{1, 31}, {-1, -31}, {2, 62}, {1, 30}, {1, 32}, {1, 33}, {1, 37}, {1, -31}, {1, 1}, {1 << 16, 1}}) {
+                TransactionCells x = Due.made(Due.CLOCK, Due.code(a(READ, r, 0), a(IF_NONE, r, 3), a(JUMP, 4), a(SET, r + 1, numbers[1])),
+                    Due.code(a(WRITE, 0, 0)));
+                x.cell(0, 1, numbers[0]);
+                x.start(0);
+                x.start(1);
+                // Not written; written and THREAD 1 GOING or ENDED: THREAD 0 at its five PLACES and ENDED, by what it read.
+                int unwritten = 5;
+                int written = 5 + 4;
+                due("14: REGISTERS " + r + " of " + numbers[0] + " and 0, or of 0 and " + numbers[1], x.explore(400), unwritten + 2 * written);
+                due("15: how THREADS stand, not REGISTERS", x.end(-1, 0), 1);
+            }
+        }
     }
 
     /** The ELDER one goes on from every house, so that each circle of the two has an end. */

@@ -1,11 +1,19 @@
+import java.io.PrintWriter;
+import java.io.StringWriter;
 import java.lang.reflect.Field;
 import java.lang.reflect.Method;
 import java.lang.reflect.Modifier;
 import java.nio.file.Files;
 import java.nio.file.Path;
+import java.util.ArrayList;
 import java.util.Arrays;
+import java.util.List;
+import java.util.Map;
+import java.util.Optional;
 import java.util.Set;
+import java.util.TreeMap;
 import java.util.TreeSet;
+import java.util.spi.ToolProvider;
 import java.util.regex.Matcher;
 import java.util.regex.Pattern;
 
@@ -33,6 +41,7 @@ public final class LanguageTest {
         for (String word : FORBIDDEN) Due.due("forbidden: " + word, count(word, bare), 0);
         library(bare);
         methods(bare);
+        calls();
         Due.close();
     }
 
@@ -78,7 +87,10 @@ public final class LanguageTest {
         Class<?>[] inside = TransactionCells.class.getDeclaredClasses();
         Due.due("some twelve classes", inside.length < 12 ? 1 : 0, 1);
         fields(TransactionCells.class);
+        Set<String> names = new TreeSet<>();
+        for (String method : FACE) names.add(method.replaceAll("^\\w+ |\\(.*", ""));
         for (Class<?> c : inside) {
+            for (Method m : c.getDeclaredMethods()) Due.due("not a name of the face: " + m, names.contains(m.getName()) ? 1 : 0, 0);
             Due.due("static: " + c, Modifier.isStatic(c.getModifiers()) ? 1 : 0, 1);
             Due.due("not public: " + c, c.getModifiers() & (Modifier.PUBLIC | Modifier.PROTECTED), 0);
             fields(c);
@@ -129,5 +141,51 @@ public final class LanguageTest {
             Due.due("parameters of" + lines[i], parameters <= 7 ? 1 : 0, 1);
         }
         Due.due("methods were seen", seen > 60 ? 1 : 0, 1);
+    }
+
+    // ---- calls: none that comes back to itself, and at most eight deep
+
+    private static void calls() {
+        Optional<ToolProvider> javap = ToolProvider.findFirst("javap");
+        if (javap.isEmpty()) {
+            System.out.println("no javap here: how deep calls go was not looked at");
+            return;
+        }
+        Map<String, Set<String>> graph = new TreeMap<>();
+        List<String> classes = new ArrayList<>(List.of("TransactionCells"));
+        for (Class<?> c : TransactionCells.class.getDeclaredClasses()) classes.add(c.getName());
+        for (String c : classes) readCalls(javap.get(), c, graph);
+        Due.due("methods were seen", graph.size() > 60 ? 1 : 0, 1);
+        for (String method : graph.keySet()) {
+            int depth = depth(graph, method, new ArrayList<>());
+            Due.due(method + " goes at most eight deep, the library's call too", depth <= 8 ? 8 : depth, 8);
+        }
+    }
+
+    /** Of each method of a class those that it calls, the library's too. */
+    private static void readCalls(ToolProvider javap, String c, Map<String, Set<String>> graph) {
+        StringWriter told = new StringWriter();
+        javap.run(new PrintWriter(told), new PrintWriter(told), "-c", "-p", "-cp", System.getProperty("java.class.path"), c);
+        Pattern head = Pattern.compile("^  [^ ].*?([\\w$]+)\\(.*\\);$");
+        Pattern call = Pattern.compile("invoke\\w+ .*// (?:Interface)?Method (?:([\\w/$]+)\\.)?\"?([\\w<>]+)\"?:");
+        Set<String> called = new TreeSet<>();
+        for (String line : told.toString().split("\n")) {
+            Matcher h = head.matcher(line);
+            if (h.find()) called = graph.computeIfAbsent(c + "." + (h.group(1).equals(c) ? "<init>" : h.group(1)), k -> new TreeSet<>());
+            Matcher m = call.matcher(line);
+            if (m.find()) called.add((m.group(1) == null ? c : m.group(1)) + "." + m.group(2));
+        }
+    }
+
+    private static int depth(Map<String, Set<String>> graph, String method, List<String> open) {
+        if (open.contains(method)) {
+            Due.due("no recursion: " + open + " to " + method, 1, 0);
+            return 0;
+        }
+        open.add(method);
+        int deepest = 0;
+        for (String called : graph.getOrDefault(method, Set.of())) deepest = Math.max(deepest, depth(graph, called, open));
+        open.remove(method);
+        return deepest + 1;
     }
 }

@@ -1,3 +1,6 @@
+import java.util.ArrayList;
+import java.util.List;
+
 /** Terms 2, what STEPS do just at their bounds: what is BARRED, four SCOPES, the CODE's end, four VALUES, what is left. */
 public final class StepEdgesTest {
     private static final int NONE = Due.NONE;
@@ -34,6 +37,7 @@ public final class StepEdgesTest {
             nothingOwned(t);
         }
         roomAgain();
+        eachThreadItsOwn();
         clockAtCounting();
         ownedByOthersStays();
         ageIsKept();
@@ -201,6 +205,59 @@ public final class StepEdgesTest {
         Due.steps("12: none is left to be done", x, 0, FAILS);
         due("12: BARRED", x.thread(0, 2), BARRED);
         due("16: SCOPES", x.thread(0, 7), 0);
+    }
+
+    /** WRITE of r[1] to all CELLS behind a SET of it. */
+    private static void addWritings(List<int[]> acts, int v) {
+        acts.add(a(SET, 1, v));
+        for (int c = 0; c < 8; c++) acts.add(a(WRITE, c, 1));
+    }
+
+    /**
+     * All three THREADS at once with four SCOPES, a full LOG and another one kept in each NEST: a RETRY to the EITHER,
+     * then a FAILURE to the inner NEST, to the outer one, and to the TRY outside. None meets what is another one's.
+     */
+    private static void eachThreadItsOwn() {
+        int[][][] codes = new int[3][][];
+        for (int t = 0; t < 3; t++) {
+            List<int[]> acts = new ArrayList<>(List.of(a(TRY, 39), a(BEGIN, WAITING)));
+            addWritings(acts, 100 + t);
+            acts.add(a(NEST, 38));
+            addWritings(acts, 200 + t);
+            acts.add(a(NEST, 37));
+            addWritings(acts, 300 + t);
+            acts.addAll(List.of(a(EITHER, 35), a(SET, 1, 400 + t), a(VOID, 7), a(RETRY), a(SET, 2, 5), a(FAIL, 2), a(FAIL, 2), a(FAIL, 2)));
+            codes[t] = acts.toArray(new int[0][]);
+        }
+        for (int first = 0; first < 3; first++) {
+            TransactionCells x = Due.going(CLOCK, codes);
+            areAll(x, first, 34, 400, 4, 34);
+            areAll(x, first, 1, 300, 3, 35);
+            areAll(x, first, 2, 200, 2, 37);
+            areAll(x, first, 1, 100, 1, 38);
+            areAll(x, first, 1, NONE, 0, 39);
+        }
+    }
+
+    /** So many STEPS of each THREAD in turn, all done; then of each its LOG, or NONE, its SCOPES and its PLACE. */
+    private static void areAll(TransactionCells x, int first, int steps, int log, int scopes, int place) {
+        due("12: all of them", x.run(first, 3 * steps), 3 * steps);
+        for (int t = 0; t < 3; t++) {
+            String what = "THREAD " + t + ", LOG " + log;
+            due("16: SCOPES of " + what, x.thread(t, 7), scopes);
+            due("16: PLACE of " + what, x.thread(t, 1), place);
+            due("16: KIND of " + what, x.thread(t, 3), log == NONE ? NONE : WAITING);
+            due("16: r[1] of " + what, x.thread(t, 9), log == NONE ? 0 : log + t);
+            due("16: no STEP did WAIT, " + what, x.thread(t, 6), 0);
+            due("16: none BEGAN ANEW, " + what, x.thread(t, 4), 0);
+            for (int c = 0; c < 8; c++) {
+                // Only the first of the EITHER makes CELL 7 NOTHING; the VALUES are those of the NEST round it.
+                boolean isVoid = log == 400 && c == 7;
+                int want = log == 400 ? 300 + t : log + t;
+                due("17: sort of CELL " + c + " in " + what, x.told(c, 8 + t), log == NONE ? NONE : isVoid ? 0 : 1);
+                due("17: CELL " + c + " in " + what, x.told(c, 11 + t), log == NONE || isVoid ? 0 : want);
+            }
+        }
     }
 
     /** They are counted for the THREAD, inside and outside of its TRANSACTION. */

@@ -35,6 +35,7 @@ public final class WaitEdgesTest {
             anewByPicture();
             startIsNotPassed();
             startBecomesTheClock();
+            readsOfAnother();
             fourValues();
             valuesOfUnlikeVersions();
         }
@@ -394,6 +395,23 @@ public final class WaitEdgesTest {
         Due.steps("12: once more", y, th(0), 1);
         done(y, th(1), 1);
         Due.steps("12: START is 0 still", y, th(0), 2);
+    }
+
+    /** What another THREAD has in its READS is no matter, be its VERSION the present one or an older one. */
+    private static void readsOfAnother() {
+        int[][] reader = Due.behind(DOING, a(READ, 0, 4), a(READ, 1, 4), a(END));
+        for (int way = 0; way < 3; way++) {
+            TransactionCells x = going(way, reader, Due.code(a(WRITE, 4, 3)), reader);
+            done(x, th(0), 2);
+            done(x, th(1), 1);
+            done(x, th(2), 3);
+            due("17: READS of the one", x.told(4, 5 + th(0)), 0);
+            due("17: READS of the other", x.told(4, 5 + th(2)), 1);
+            Due.steps("12: another VERSION than its own, though not than the other one's", x, th(0), 2);
+            Due.steps("12: the other one", x, th(2), 1, 4);
+            done(x, th(0), 3);
+            due("21: right", x.check(), NONE);
+        }
     }
 
     // ---- the latest four VALUES
